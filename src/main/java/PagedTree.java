@@ -404,7 +404,7 @@ public final class PagedTree {
     }
 
     private void releasePage(int page) {
-        disk.release(page);
+        disk.allot(page, FREE);
         frames.clearPage(page);
     }
 
@@ -518,16 +518,13 @@ public final class PagedTree {
             counts[to] = behind + count - start;
         }
 
+        /** A page without items becomes a leaf, inner or free. */
         void allot(int page, int kind) {
             if (isPage(page)) {
                 kinds[page] = kind;
                 counts[page] = 0;
                 leavesAfter[page] = NONE;
             }
-        }
-
-        void release(int page) {
-            allot(page, FREE);
         }
 
         int leastFree() {
